@@ -363,10 +363,14 @@ public final class SealOffice {
         if (!isWithin(column, COLUMNS)) {
             throw new IllegalArgumentException("no such column");
         }
+        int[] results = past.now().results;
         int sum = 0;
         for (int record = 0; record < RECORDS; record++) {
             if (records.value(record, column) != skip) {
-                sum += pagesOfLetter(record);
+                System.arraycopy(results, 0, keptResults, 0, MOST_FIELDS);
+                workOut(record);
+                sum += pages();
+                System.arraycopy(keptResults, 0, results, 0, MOST_FIELDS);
             }
         }
         return sum;
@@ -425,7 +429,8 @@ public final class SealOffice {
     }
 
     public boolean isSound() {
-        return isJudgedSoundly(false) && isJudgedSoundly(true)
+        return isJudgedSoundly(false, true) && isJudgedSoundly(false, false)
+                && isJudgedSoundly(true, true) && isJudgedSoundly(true, false)
                 && past.now().log.isAuthored() && past.now().row.areBookmarksOrdered()
                 && isEachPlaceOnPage();
     }
@@ -436,7 +441,7 @@ public final class SealOffice {
         return number >= 0 && number < many;
     }
 
-    // Every row is read and written through these two, so that no index can be out of bounds.
+    // Indexes that are worked out are used through these two alone, so that none can be out of bounds.
     private static int cell(int[] row, int index) {
         return index >= 0 && index < row.length ? row[index] : NONE;
     }
@@ -574,13 +579,13 @@ public final class SealOffice {
 
     // The pages are those of the results before: they are laid out once, ahead of all fields.
     private boolean workRound(int record) {
-        arrange();
         Paper paper = past.now();
+        layout.arrange(paper.row, paper.results, styles);
         boolean isChanged = false;
         for (int index = 0; index < paper.row.allUnits(); index++) {
             int field = paper.row.fact(Row.FIELD, index);
             if (field != NONE && !fields.isHeld(field)) {
-                int found = resultNow(field, record);
+                int found = resultNow(paper.row, field, record);
                 isChanged = isChanged || found != paper.found(field);
                 setCell(paper.results, field, found);
             }
@@ -588,39 +593,27 @@ public final class SealOffice {
         return isChanged;
     }
 
-    private int resultNow(int field, int record) {
-        Row row = past.now().row;
+    private int resultNow(Row row, int field, int record) {
+        char kind = fields.kind(field);
         int of = fields.of(field);
-        switch (fields.kind(field)) {
-            case 'c':
-                return row.seenParagraphs();
-            case 'r':
-                return records.value(record, of);
-            default:
-                return row.hasBookmark(of) ? resultOfBookmark(fields.kind(field), of) : 0;
+        if (kind == 'c') {
+            return row.seenParagraphs();
         }
-    }
-
-    private int resultOfBookmark(char kind, int bookmark) {
-        Row row = past.now().row;
-        int place = row.bookmarkBegin(bookmark);
+        if (kind == 'r') {
+            return records.value(record, of);
+        }
+        if (!row.hasBookmark(of)) {
+            return 0;
+        }
+        int place = row.bookmarkBegin(of);
         switch (kind) {
             case 'n':
                 return numbers.ownNumber(row, row.endFrom(row.indexOf(place)));
             case 'p':
                 return layout.pageAt(place) + 1;
             default:
-                return row.bookmarkEnd(bookmark) - place;
+                return row.bookmarkEnd(of) - place;
         }
-    }
-
-    private int pagesOfLetter(int record) {
-        int[] results = past.now().results;
-        System.arraycopy(results, 0, keptResults, 0, MOST_FIELDS);
-        workOut(record);
-        arrange();
-        System.arraycopy(keptResults, 0, results, 0, MOST_FIELDS);
-        return layout.manyPages();
     }
 
     private static int bitsOfShare(float share) {
@@ -653,10 +646,6 @@ public final class SealOffice {
         return (exponent << 52) + (long) ((rest - 1.0) * 4503599627370496.0);
     }
 
-    private boolean isJudgedSoundly(boolean isAccepted) {
-        return isJudgedSoundly(isAccepted, true) && isJudgedSoundly(isAccepted, false);
-    }
-
     private boolean isJudgedSoundly(boolean isAccepted, boolean isRising) {
         Paper paper = past.now();
         trial.takeFrom(paper);
@@ -667,7 +656,7 @@ public final class SealOffice {
                 trial.settle(change, isAccepted);
             }
         }
-        return isAccepted ? trial.row.isSeenTextOf(paper.row) : trial.row.isOldTextOf(paper.row);
+        return trial.row.isTextOf(paper.row, !isAccepted);
     }
 
     private boolean isEachPlaceOnPage() {
@@ -724,12 +713,14 @@ public final class SealOffice {
         }
 
         int fact(int which, int index) {
-            return isWithin(index, SPOTS) ? cell(facts, which * SPOTS + index) : NONE;
+            int spot = which * SPOTS + index;
+            return index >= 0 && index < SPOTS && spot >= 0 && spot < facts.length ? facts[spot] : NONE;
         }
 
         void setFact(int which, int index, int value) {
-            if (isWithin(index, SPOTS)) {
-                setCell(facts, which * SPOTS + index, value);
+            int spot = which * SPOTS + index;
+            if (index >= 0 && index < SPOTS && spot >= 0 && spot < facts.length) {
+                facts[spot] = value;
             }
         }
 
@@ -746,7 +737,7 @@ public final class SealOffice {
         }
 
         boolean isSeenEnd(int index) {
-            return isSeen(index) && fact(LETTER, index) == END;
+            return index >= 0 && index <= units && fact(ERASED, index) == NONE && fact(LETTER, index) == END;
         }
 
         int indexOf(int place) {
@@ -800,7 +791,7 @@ public final class SealOffice {
         int placeOf(int index) {
             int ahead = 0;
             for (int unit = 0; unit < index && unit < units; unit++) {
-                if (isSeen(unit)) {
+                if (fact(ERASED, unit) == NONE) {
                     ahead++;
                 }
             }
@@ -984,24 +975,11 @@ public final class SealOffice {
             return true;
         }
 
-        // Whether all units here are those that are seen there.
-        boolean isSeenTextOf(Row there) {
+        // Whether the units here are those of the old text there, or those that are seen there.
+        boolean isTextOf(Row there, boolean isOldText) {
             int at = 0;
             for (int index = 0; index < there.units; index++) {
-                if (there.isSeen(index)) {
-                    if (at >= units || fact(LETTER, at) != there.fact(LETTER, index)) {
-                        return false;
-                    }
-                    at++;
-                }
-            }
-            return at == units;
-        }
-
-        boolean isOldTextOf(Row there) {
-            int at = 0;
-            for (int index = 0; index < there.units; index++) {
-                if (there.isOld(index)) {
+                if (isOldText ? there.isOld(index) : there.isSeen(index)) {
                     if (at >= units || fact(LETTER, at) != there.fact(LETTER, index)) {
                         return false;
                     }
@@ -1577,7 +1555,7 @@ public final class SealOffice {
                     setCell(signOfPlace, place, signs);
                     setCell(paragraphOfPlace, place, ends);
                     place++;
-                    if (row.isSeenEnd(index)) {
+                    if (row.fact(Row.LETTER, index) == END) {
                         closeParagraph(styles.keepsWithNext(row.fact(Row.STYLE, index)));
                     } else {
                         addSigns(row, index, results);
@@ -1609,7 +1587,7 @@ public final class SealOffice {
         }
 
         private void addSign(boolean isBlank) {
-            if (isWithin(signs, MOST_SIGNS)) {
+            if (signs >= 0 && signs < MOST_SIGNS) {
                 blanks[signs] = isBlank;
                 signs++;
             }
