@@ -76,6 +76,12 @@ public final class BookmarksFieldsTest {
         x.undo();
         x.undo();
         Check.due("37: undone", Check.bookmark(x, 0), "1-3");
+        x.erase(0, 3, 4);
+        Check.due("38: the unit at its end goes", Check.bookmark(x, 0), "1-3");
+        x.undo();
+        x.erase(0, 0, 1);
+        Check.due("38: one ahead of it goes", Check.bookmark(x, 0), "0-2");
+        x.undo();
         x.setTracking(true);
         x.erase(1, 2, 3);
         x.setTracking(false);

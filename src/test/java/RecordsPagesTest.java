@@ -91,6 +91,8 @@ public final class RecordsPagesTest {
         lines("", "0");
         lines("abcde", "000000");
         lines("abcdef", "0000011");
+        lines("ab cd", "000000");
+        lines("ab cd/", "0000001");
         lines("ab cde", "0001111");
         lines("abcd f", "0000011");
         lines("abcde f", "00000111");
@@ -168,6 +170,9 @@ public final class RecordsPagesTest {
         Check.due("46: it goes there", Check.spots(kept("a/b/c", 2, 0)), "0.0 0.0 0.1 0.1 1.0 1.0");
         Check.due("46: it would not go on one page", Check.spots(kept("a/b/c/d", 2, 1, 2)), "0.0 0.0 0.1 0.1 1.0 1.0 1.1 1.1");
         Check.due("46: three go on one of three lines", Check.spots(kept("a/b/c/d", 3, 1, 2)), "0.0 0.0 1.0 1.0 1.1 1.1 1.2 1.2");
+        Check.due("46: too many for a page, none of them moves", Check.spots(kept("a/b/c/d/e", 2, 0, 1, 2)),
+                "0.0 0.0 0.1 0.1 1.0 1.0 1.1 1.1 2.0 2.0");
+        Check.due("46: nor a last part of them", Check.spots(kept("aaaaaaaaaaa/b/c", 2, 0, 1)).substring(48), "1.1 1.1 2.0 2.0");
         Check.due("46: only the first line behind them", Check.spots(kept("a/b/ccccccc", 3, 1)),
                 "0.0 0.0 0.1 0.1 0.2 0.2 0.2 0.2 0.2 1.0 1.0 1.0");
         Check.due("46: nothing behind them", Check.spots(kept("a/b/c", 2, 2)), "0.0 0.0 0.1 0.1 1.0 1.0");

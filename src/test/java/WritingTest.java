@@ -249,6 +249,7 @@ public final class WritingTest {
         x.setTracking(false);
         Check.due("5: untracked", x.erase(0, 0, 3), -1);
         Check.due("5: text", Check.text(x), "d");
+        Check.due("5: from the first place", Check.plain("a").erase(0, 0, 1), 0);
         Check.due("5: what another one erased is there", Check.old(x), "ad");
         Check.due("5: units", x.unitsOf(0), 1);
         Check.due("5: the rest", x.erase(2, 0, 1), -1);
@@ -293,11 +294,16 @@ public final class WritingTest {
         Check.due("6: the last end", x.setStyle(1, 1, 0), 1);
         Check.due("6: refused", x.refuse(0), 1);
         Check.due("6: also what another one set", x.styleOf(0), 0);
-        Check.due("6: a new one then", x.setStyle(3, 0, 2), 2);
-        Check.due("6: accepted", x.accept(2), 1);
+        Check.due("6: the last end refused", x.refuse(1), 1);
+        Check.due("6: the last end may have a new one", x.setStyle(1, 1, 1), 2);
+        Check.due("6: set there", x.styleOf(1), 1);
+        Check.due("6: refused there", x.refuse(2), 1);
+        Check.due("6: kept there", x.styleOf(1), 0);
+        Check.due("6: a new one then", x.setStyle(3, 0, 2), 3);
+        Check.due("6: accepted", x.accept(3), 1);
         Check.due("6: stays", x.styleOf(0), 2);
-        Check.due("6: the other one", x.setStyle(0, 0, 1), 3);
-        x.refuse(3);
+        Check.due("6: the other one", x.setStyle(0, 0, 1), 4);
+        x.refuse(4);
         Check.due("6: kept", x.styleOf(0), 2);
     }
 
