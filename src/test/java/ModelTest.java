@@ -32,8 +32,9 @@ public final class ModelTest {
         Method[] face = face();
         for (long seed = first; seed < first + runs; seed++) {
             ModelTest test = new ModelTest(seed);
-            test.fill((int) (seed % 4) * 65);
-            for (int call = (int) (seed % 4) * 65; call < CALLS; call++) {
+            int filled = (int) (seed % 4) * 65;
+            test.fill(filled);
+            for (int call = filled + 1; call < CALLS; call++) {
                 if (!test.agrees(face)) {
                     System.out.println("run " + seed + ", call " + call + ", the last ones:");
                     int from = Math.max(0, test.history.size() - 40);
@@ -45,7 +46,7 @@ public final class ModelTest {
         System.out.println(runs + " runs agree");
     }
 
-    // Some runs begin with much text, so that they reach the most units.
+    // Some runs begin with much text, so that they reach the most units; that takes a call more than there are units.
     private void fill(int units) {
         office.setTracking(units == 65);
         model.setTracking(units == 65);
