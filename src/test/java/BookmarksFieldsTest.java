@@ -26,21 +26,21 @@ public final class BookmarksFieldsTest {
         Check.due("37: from", x.bookmarkFrom(0), 2);
         Check.due("38: to", x.bookmarkTo(0), 2);
         Check.due("36: another one", x.setBookmark(5, 0, 4), 4);
-        Check.refused(x, "36: bookmark 6", BOUNDS, () -> x.setBookmark(6, 1, 0));
-        Check.refused(x, "36: bookmark -1", BOUNDS, () -> x.setBookmark(-1, 0, 0));
-        Check.refused(x, "36: from", BOUNDS, () -> x.setBookmark(0, 5, 1));
-        Check.refused(x, "36: from -1", BOUNDS, () -> x.setBookmark(0, -1, 1));
-        Check.refused(x, "36: to", BOUNDS, () -> x.setBookmark(0, 0, 5));
-        Check.refused(x, "36: to -1", BOUNDS, () -> x.setBookmark(0, 0, -1));
-        Check.refused(x, "36: ahead", ARGUMENT, () -> x.setBookmark(0, 2, 1));
-        Check.refused(x, "37: bookmark 6", BOUNDS, () -> x.bookmarkFrom(6));
-        Check.refused(x, "37: bookmark -1", BOUNDS, () -> x.bookmarkFrom(-1));
-        Check.refused(x, "38: bookmark 6", BOUNDS, () -> x.bookmarkTo(6));
-        Check.refused(x, "38: bookmark -1", BOUNDS, () -> x.bookmarkTo(-1));
-        Check.refused(x, "37: never set", NoSuchElementException.class, () -> x.bookmarkFrom(1));
-        Check.refused(x, "38: never set", NoSuchElementException.class, () -> x.bookmarkTo(1));
+        Check.fails("36: bookmark 6", BOUNDS, () -> x.setBookmark(6, 1, 0));
+        Check.fails("36: bookmark -1", BOUNDS, () -> x.setBookmark(-1, 0, 0));
+        Check.fails("36: from", BOUNDS, () -> x.setBookmark(0, 5, 1));
+        Check.fails("36: from -1", BOUNDS, () -> x.setBookmark(0, -1, 1));
+        Check.fails("36: to", BOUNDS, () -> x.setBookmark(0, 0, 5));
+        Check.fails("36: to -1", BOUNDS, () -> x.setBookmark(0, 0, -1));
+        Check.fails("36: ahead", ARGUMENT, () -> x.setBookmark(0, 2, 1));
+        Check.fails("37: bookmark 6", BOUNDS, () -> x.bookmarkFrom(6));
+        Check.fails("37: bookmark -1", BOUNDS, () -> x.bookmarkFrom(-1));
+        Check.fails("38: bookmark 6", BOUNDS, () -> x.bookmarkTo(6));
+        Check.fails("38: bookmark -1", BOUNDS, () -> x.bookmarkTo(-1));
+        Check.fails("37: never set", NoSuchElementException.class, () -> x.bookmarkFrom(1));
+        Check.fails("38: never set", NoSuchElementException.class, () -> x.bookmarkTo(1));
         x.undo();
-        Check.refused(x, "37: undone", NoSuchElementException.class, () -> x.bookmarkFrom(5));
+        Check.fails("37: undone", NoSuchElementException.class, () -> x.bookmarkFrom(5));
         x.undo();
         Check.due("36: the one before", Check.bookmark(x, 0), "1-4");
     }
@@ -113,10 +113,10 @@ public final class BookmarksFieldsTest {
         Check.due("39: ended", x.lock(0, false), true);
         Check.due("41: then not", x.update(), 1);
         Check.due("40: result", x.result(0), 1);
-        Check.refused(x, "39: 1", BOUNDS, () -> x.lock(1, true));
-        Check.refused(x, "39: -1", BOUNDS, () -> x.lock(-1, true));
-        Check.refused(x, "40: 1", BOUNDS, () -> x.result(1));
-        Check.refused(x, "40: -1", BOUNDS, () -> x.result(-1));
+        Check.fails("39: 1", BOUNDS, () -> x.lock(1, true));
+        Check.fails("39: -1", BOUNDS, () -> x.lock(-1, true));
+        Check.fails("40: 1", BOUNDS, () -> x.result(1));
+        Check.fails("40: -1", BOUNDS, () -> x.result(-1));
     }
 
     private static void results() {

@@ -48,12 +48,12 @@ public final class ChangesTest {
         SealOffice x = Check.plain("abc");
         x.insert(3, 0, 'x');
         for (int wrong : new int[] {-1, 1, 60, Integer.MAX_VALUE, Integer.MIN_VALUE}) {
-            Check.refused(x, "18: kindOf", BOUNDS, () -> x.kindOf(wrong));
-            Check.refused(x, "19: authorOf", BOUNDS, () -> x.authorOf(wrong));
-            Check.refused(x, "20: stateOf", BOUNDS, () -> x.stateOf(wrong));
-            Check.refused(x, "21: unitsOf", BOUNDS, () -> x.unitsOf(wrong));
-            Check.refused(x, "23: accept", BOUNDS, () -> x.accept(wrong));
-            Check.refused(x, "24: refuse", BOUNDS, () -> x.refuse(wrong));
+            Check.fails("18: kindOf", BOUNDS, () -> x.kindOf(wrong));
+            Check.fails("19: authorOf", BOUNDS, () -> x.authorOf(wrong));
+            Check.fails("20: stateOf", BOUNDS, () -> x.stateOf(wrong));
+            Check.fails("21: unitsOf", BOUNDS, () -> x.unitsOf(wrong));
+            Check.fails("23: accept", BOUNDS, () -> x.accept(wrong));
+            Check.fails("24: refuse", BOUNDS, () -> x.refuse(wrong));
         }
         x.undo();
         Check.fails("18: undone", BOUNDS, () -> x.kindOf(0));
@@ -80,18 +80,18 @@ public final class ChangesTest {
         x.erase(1, 0, 5);
         Check.due("23: writing", x.accept(0), 3);
         Check.due("23: also what is erased", Check.old(x), "abcdxyz");
-        Check.refused(x, "23: waits no more", STATE, () -> x.accept(0));
-        Check.refused(x, "24: waits no more", STATE, () -> x.refuse(0));
+        Check.fails("23: waits no more", STATE, () -> x.accept(0));
+        Check.fails("24: waits no more", STATE, () -> x.refuse(0));
         Check.due("23: erasing", x.accept(1), 5);
         Check.due("23: gone", Check.old(x), "yz");
-        Check.refused(x, "24: accepted", STATE, () -> x.refuse(1));
+        Check.fails("24: accepted", STATE, () -> x.refuse(1));
         x.insert(2, 1, 'q');
         x.erase(0, 0, 3);
         Check.due("24: erasing", x.refuse(3), 3);
         Check.due("24: there again", Check.text(x), "yqz");
         Check.due("24: writing", x.refuse(2), 1);
         Check.due("24: gone", Check.text(x), "yz");
-        Check.refused(x, "23: refused", STATE, () -> x.accept(2));
+        Check.fails("23: refused", STATE, () -> x.accept(2));
     }
 
     private static void goneIsGoneForAll() {
@@ -130,8 +130,8 @@ public final class ChangesTest {
         x.insert(1, 1, 'y');
         x.erase(0, 1, 3);
         x.insert(1, 1, 'z');
-        Check.refused(x, "25: author 4", BOUNDS, () -> x.judge(4, true));
-        Check.refused(x, "25: author -2", BOUNDS, () -> x.judge(-2, false));
+        Check.fails("25: author 4", BOUNDS, () -> x.judge(4, true));
+        Check.fails("25: author -2", BOUNDS, () -> x.judge(-2, false));
         Check.due("25: none", x.judge(2, false), 0);
         Check.due("25: the first one's", x.judge(0, false), 2);
         Check.due("25: text", Check.text(x), "yazb");

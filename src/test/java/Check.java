@@ -29,13 +29,6 @@ final class Check {
         due(what, got, want);
     }
 
-    /** The call fails so, and all that can be read of the office is as before. */
-    static void refused(SealOffice x, String what, Class<? extends RuntimeException> want, Call call) {
-        String before = all(x);
-        fails(what, want, call);
-        due(what + ", and nothing changed", all(x), before);
-    }
-
     static void end() {
         if (wrong != 0) {
             System.out.println(wrong + " answers are not as due");

@@ -9,8 +9,8 @@ public final class FiguresTest {
 
     private static void share() {
         SealOffice x = new SealOffice();
-        Check.refused(x, "49: no units", ArithmeticException.class, () -> x.waitingShare());
-        Check.refused(x, "50: no units", ArithmeticException.class, () -> x.shareBits());
+        Check.fails("49: no units", ArithmeticException.class, () -> x.waitingShare());
+        Check.fails("50: no units", ArithmeticException.class, () -> x.shareBits());
         SealOffice y = Check.plain("abc");
         Check.due("49: none", y.waitingShare(), 0f);
         Check.due("50: none", y.shareBits(), 0);
@@ -51,7 +51,7 @@ public final class FiguresTest {
         Check.due("51: joined", y.meanParagraph(), 1.5);
         SealOffice z = new SealOffice();
         z.setTracking(false);
-        for (int k = 1; k <= 200; k++) {
+        for (int k = 1; k <= 150; k++) {
             z.insert(0, k - 1, k % 7 == 0 ? '/' : 'a');
             double mean = (double) (k - k / 7) / (double) (k / 7 + 1);
             Check.due("51: mean", z.meanParagraph(), mean);

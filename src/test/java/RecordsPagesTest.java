@@ -24,13 +24,13 @@ public final class RecordsPagesTest {
         Check.due("42: and another one", x.setRecord(3, 2, 6), 0);
         int[][] wrong = {{5, 0, 0}, {-1, 0, 0}, {0, 3, 0}, {0, -1, 0}, {0, 0, 10000}, {0, 0, -1}};
         for (int[] w : wrong) {
-            Check.refused(x, "42: out of range", ARGUMENT, () -> x.setRecord(w[0], w[1], w[2]));
+            Check.fails("42: out of range", ARGUMENT, () -> x.setRecord(w[0], w[1], w[2]));
         }
         Check.due("42: a refused value is not set", x.setRecord(0, 0, 1), 0);
         Check.due("43: at first", x.choose(4), 0);
         Check.due("43: before", x.choose(1), 4);
-        Check.refused(x, "43: 5", ARGUMENT, () -> x.choose(5));
-        Check.refused(x, "43: -1", ARGUMENT, () -> x.choose(-1));
+        Check.fails("43: 5", ARGUMENT, () -> x.choose(5));
+        Check.fails("43: -1", ARGUMENT, () -> x.choose(-1));
         Check.due("43: still", x.choose(0), 1);
     }
 
@@ -38,8 +38,8 @@ public final class RecordsPagesTest {
         SealOffice x = new SealOffice();
         Check.due("44: all skipped", x.merge(0, 0), 0);
         Check.due("44: none skipped", x.merge(0, -5), 5);
-        Check.refused(x, "44: column 3", ARGUMENT, () -> x.merge(3, 0));
-        Check.refused(x, "44: column -1", ARGUMENT, () -> x.merge(-1, 0));
+        Check.fails("44: column 3", ARGUMENT, () -> x.merge(3, 0));
+        Check.fails("44: column -1", ARGUMENT, () -> x.merge(-1, 0));
         SealOffice y = Check.plain("/aaaa");
         y.setTracking(false);
         y.setPage(5, 2);
@@ -69,10 +69,10 @@ public final class RecordsPagesTest {
         SealOffice x = new SealOffice();
         Check.due("45: at first", x.setPage(60, 40), 2008);
         Check.due("45: before", x.setPage(5, 2), 6040);
-        Check.refused(x, "45: width 4", ARGUMENT, () -> x.setPage(4, 2));
-        Check.refused(x, "45: width 61", ARGUMENT, () -> x.setPage(61, 2));
-        Check.refused(x, "45: lines 1", ARGUMENT, () -> x.setPage(5, 1));
-        Check.refused(x, "45: lines 41", ARGUMENT, () -> x.setPage(5, 41));
+        Check.fails("45: width 4", ARGUMENT, () -> x.setPage(4, 2));
+        Check.fails("45: width 61", ARGUMENT, () -> x.setPage(61, 2));
+        Check.fails("45: lines 1", ARGUMENT, () -> x.setPage(5, 1));
+        Check.fails("45: lines 41", ARGUMENT, () -> x.setPage(5, 41));
         Check.due("45: still", x.setPage(20, 8), 502);
     }
 

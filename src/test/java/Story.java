@@ -1,6 +1,7 @@
 import java.util.ArrayList;
 import java.util.List;
 import java.util.NoSuchElementException;
+import java.util.function.BiFunction;
 import java.util.function.Function;
 
 /**
@@ -98,6 +99,26 @@ final class Story {
 
     void arithmetic(String what, Function<SealOffice, Object> call) {
         refuses(what, ArithmeticException.class, call);
+    }
+
+    /** Of all signs that there are, those that a call takes; each is given to it at the end of the story. */
+    String signsTaken(BiFunction<SealOffice, Character, Object> call) {
+        StringBuilder taken = new StringBuilder();
+        SealOffice x = office();
+        int left = MOST_CALLS - steps.size();
+        for (int sign = 0; sign <= Character.MAX_VALUE; sign++) {
+            char given = (char) sign;
+            boolean isTaken = !answer(x, y -> call.apply(y, given)).equals(IllegalArgumentException.class.getName());
+            if (isTaken) {
+                taken.append(given);
+            }
+            left--;
+            if (isTaken || left == 0) {
+                x = office();
+                left = MOST_CALLS - steps.size();
+            }
+        }
+        return taken.toString();
     }
 
     // The call throws this, and nothing that a later call shows is other than without it.

@@ -23,16 +23,16 @@ public final class StylesListsTest {
 
     private static void addStyle() {
         SealOffice x = new SealOffice();
-        Check.refused(x, "26: parent 1", ARGUMENT, () -> x.addStyle(1, true, 0));
-        Check.refused(x, "26: parent -2", ARGUMENT, () -> x.addStyle(-2, true, 0));
-        Check.refused(x, "26: keeps 2", ARGUMENT, () -> x.addStyle(0, true, 2));
-        Check.refused(x, "26: keeps -2", ARGUMENT, () -> x.addStyle(0, true, -2));
+        Check.fails("26: parent 1", ARGUMENT, () -> x.addStyle(1, true, 0));
+        Check.fails("26: parent -2", ARGUMENT, () -> x.addStyle(-2, true, 0));
+        Check.fails("26: keeps 2", ARGUMENT, () -> x.addStyle(0, true, 2));
+        Check.fails("26: keeps -2", ARGUMENT, () -> x.addStyle(0, true, -2));
         for (int style = 1; style < 8; style++) {
             Check.due("26: number", x.addStyle(style % 2 == 0 ? -1 : style - 1, true, style % 3 - 1), style);
         }
-        Check.refused(x, "26: 8 styles", IllegalStateException.class, () -> x.addStyle(7, true, 0));
-        Check.refused(x, "26: a wrong parent goes ahead", ARGUMENT, () -> x.addStyle(8, true, 0));
-        Check.refused(x, "26: a wrong number goes ahead", ARGUMENT, () -> x.addStyle(0, true, 2));
+        Check.fails("26: 8 styles", IllegalStateException.class, () -> x.addStyle(7, true, 0));
+        Check.fails("26: a wrong parent goes ahead", ARGUMENT, () -> x.addStyle(8, true, 0));
+        Check.fails("26: a wrong number goes ahead", ARGUMENT, () -> x.addStyle(0, true, 2));
     }
 
     private static void styleOf() {
@@ -70,13 +70,13 @@ public final class StylesListsTest {
         Check.due("29: level has no meaning", x.setList(0, -1, 99), 0);
         Check.due("29: taken out", x.setList(0, 1, 2), -1);
         x.protect(0, true);
-        Check.refused(x, "29: -1", BOUNDS, () -> x.setList(-1, 5, 0));
-        Check.refused(x, "29: 2", BOUNDS, () -> x.setList(2, 0, 0));
-        Check.refused(x, "29: list 3", ARGUMENT, () -> x.setList(0, 3, 0));
-        Check.refused(x, "29: list -2", ARGUMENT, () -> x.setList(1, -2, 0));
-        Check.refused(x, "29: level 3", ARGUMENT, () -> x.setList(0, 0, 3));
-        Check.refused(x, "29: level -1", ARGUMENT, () -> x.setList(1, 0, -1));
-        Check.refused(x, "29: protected", UNSUPPORTED, () -> x.setList(0, -1, 0));
+        Check.fails("29: -1", BOUNDS, () -> x.setList(-1, 5, 0));
+        Check.fails("29: 2", BOUNDS, () -> x.setList(2, 0, 0));
+        Check.fails("29: list 3", ARGUMENT, () -> x.setList(0, 3, 0));
+        Check.fails("29: list -2", ARGUMENT, () -> x.setList(1, -2, 0));
+        Check.fails("29: level 3", ARGUMENT, () -> x.setList(0, 0, 3));
+        Check.fails("29: level -1", ARGUMENT, () -> x.setList(1, 0, -1));
+        Check.fails("29: protected", UNSUPPORTED, () -> x.setList(0, -1, 0));
         x.undo();
         x.undo();
         Check.due("29: undone", x.numberOf(0), 0);
@@ -95,11 +95,11 @@ public final class StylesListsTest {
         Check.due("30: ended", x.restart(0, 0), 41);
         Check.due("30: as without", x.numberOf(0), 1);
         x.protect(1, true);
-        Check.refused(x, "30: -1", BOUNDS, () -> x.restart(-1, 100));
-        Check.refused(x, "30: 2", BOUNDS, () -> x.restart(2, 1));
-        Check.refused(x, "30: number 100", ARGUMENT, () -> x.restart(1, 100));
-        Check.refused(x, "30: number -1", ARGUMENT, () -> x.restart(0, -1));
-        Check.refused(x, "30: protected", UNSUPPORTED, () -> x.restart(1, 1));
+        Check.fails("30: -1", BOUNDS, () -> x.restart(-1, 100));
+        Check.fails("30: 2", BOUNDS, () -> x.restart(2, 1));
+        Check.fails("30: number 100", ARGUMENT, () -> x.restart(1, 100));
+        Check.fails("30: number -1", ARGUMENT, () -> x.restart(0, -1));
+        Check.fails("30: protected", UNSUPPORTED, () -> x.restart(1, 1));
         Check.due("30: not protected", x.restart(0, 2), 0);
     }
 
@@ -110,11 +110,11 @@ public final class StylesListsTest {
         Check.due("31: another level", x.setKind(0, 1, 'r'), 'd');
         Check.due("31: another list", x.setKind(1, 0, 'd'), 'd');
         Check.due("31: the first one", x.setKind(0, 0, 'd'), 'r');
-        Check.refused(x, "31: list 3", ARGUMENT, () -> x.setKind(3, 0, 'd'));
-        Check.refused(x, "31: list -1", ARGUMENT, () -> x.setKind(-1, 0, 'd'));
-        Check.refused(x, "31: level 3", ARGUMENT, () -> x.setKind(0, 3, 'd'));
-        Check.refused(x, "31: level -1", ARGUMENT, () -> x.setKind(1, -1, 'd'));
-        Check.refused(x, "31: kind", ARGUMENT, () -> x.setKind(0, 0, 'b'));
+        Check.fails("31: list 3", ARGUMENT, () -> x.setKind(3, 0, 'd'));
+        Check.fails("31: list -1", ARGUMENT, () -> x.setKind(-1, 0, 'd'));
+        Check.fails("31: level 3", ARGUMENT, () -> x.setKind(0, 3, 'd'));
+        Check.fails("31: level -1", ARGUMENT, () -> x.setKind(1, -1, 'd'));
+        Check.fails("31: kind", ARGUMENT, () -> x.setKind(0, 0, 'b'));
     }
 
     private static void legal() {
@@ -130,8 +130,8 @@ public final class StylesListsTest {
         Check.due("32: was", x.setLegal(0, false), true);
         Check.due("32: the other list", x.setLegal(1, true), false);
         Check.due("32: not any more", Check.number(x, 1), "i.d");
-        Check.refused(x, "32: list 3", ARGUMENT, () -> x.setLegal(3, true));
-        Check.refused(x, "32: list -1", ARGUMENT, () -> x.setLegal(-1, true));
+        Check.fails("32: list 3", ARGUMENT, () -> x.setLegal(3, true));
+        Check.fails("32: list -1", ARGUMENT, () -> x.setLegal(-1, true));
     }
 
     private static void numbers() {
@@ -183,9 +183,9 @@ public final class StylesListsTest {
 
     private static void writeNumber() {
         SealOffice x = Check.plain("a");
-        Check.refused(x, "34: in no list", NoSuchElementException.class, () -> x.writeNumber(0));
-        Check.refused(x, "34: -1", BOUNDS, () -> x.writeNumber(-1));
-        Check.refused(x, "34: 1", BOUNDS, () -> x.writeNumber(1));
+        Check.fails("34: in no list", NoSuchElementException.class, () -> x.writeNumber(0));
+        Check.fails("34: -1", BOUNDS, () -> x.writeNumber(-1));
+        Check.fails("34: 1", BOUNDS, () -> x.writeNumber(1));
         Check.fails("35: the line is empty at first", BOUNDS, () -> x.lineAt(0));
         x.setList(0, 0, 0);
         String[] letters = {"1 a", "26 z", "27 aa", "28 bb", "52 zz", "53 aaa", "78 zzz", "79 aaaa", "99 uuuu"};

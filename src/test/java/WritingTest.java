@@ -101,17 +101,17 @@ public final class WritingTest {
     private static void insertRefuses() {
         SealOffice x = Check.plain("ab/c");
         x.protect(0, true);
-        Check.refused(x, "3: author -1", BOUNDS, () -> x.insert(-1, 0, 'A'));
-        Check.refused(x, "3: author 4", BOUNDS, () -> x.insert(4, 0, 'a'));
-        Check.refused(x, "3: place -1", BOUNDS, () -> x.insert(0, -1, 'A'));
-        Check.refused(x, "3: place 5", BOUNDS, () -> x.insert(0, 5, 'a'));
-        Check.refused(x, "3: letter A", ARGUMENT, () -> x.insert(0, 0, 'A'));
-        Check.refused(x, "3: letter @", ARGUMENT, () -> x.insert(0, 4, '@'));
-        Check.refused(x, "3: letter `", ARGUMENT, () -> x.insert(0, 4, '`'));
-        Check.refused(x, "3: letter {", ARGUMENT, () -> x.insert(0, 4, '{'));
-        Check.refused(x, "3: letter .", ARGUMENT, () -> x.insert(0, 4, '.'));
-        Check.refused(x, "3: protected", UNSUPPORTED, () -> x.insert(0, 0, 'a'));
-        Check.refused(x, "3: protected, ahead of its end", UNSUPPORTED, () -> x.insert(0, 2, '/'));
+        Check.fails("3: author -1", BOUNDS, () -> x.insert(-1, 0, 'A'));
+        Check.fails("3: author 4", BOUNDS, () -> x.insert(4, 0, 'a'));
+        Check.fails("3: place -1", BOUNDS, () -> x.insert(0, -1, 'A'));
+        Check.fails("3: place 5", BOUNDS, () -> x.insert(0, 5, 'a'));
+        Check.fails("3: letter A", ARGUMENT, () -> x.insert(0, 0, 'A'));
+        Check.fails("3: letter @", ARGUMENT, () -> x.insert(0, 4, '@'));
+        Check.fails("3: letter `", ARGUMENT, () -> x.insert(0, 4, '`'));
+        Check.fails("3: letter {", ARGUMENT, () -> x.insert(0, 4, '{'));
+        Check.fails("3: letter .", ARGUMENT, () -> x.insert(0, 4, '.'));
+        Check.fails("3: protected", UNSUPPORTED, () -> x.insert(0, 0, 'a'));
+        Check.fails("3: protected, ahead of its end", UNSUPPORTED, () -> x.insert(0, 2, '/'));
         Check.due("3: the next one is not", x.insert(0, 3, 'a'), 0);
     }
 
@@ -119,26 +119,26 @@ public final class WritingTest {
         SealOffice x = Check.plain("a".repeat(199));
         Check.due("3: the 200th unit", x.insert(0, 199, 'b'), 0);
         x.protect(0, true);
-        Check.refused(x, "3: no room, ahead of protection", STATE, () -> x.insert(0, 0, 'a'));
-        Check.refused(x, "4: no room", STATE, () -> x.addField(0, 0, 'c', 0));
-        Check.refused(x, "3: a wrong letter goes ahead", ARGUMENT, () -> x.insert(0, 0, '!'));
+        Check.fails("3: no room, ahead of protection", STATE, () -> x.insert(0, 0, 'a'));
+        Check.fails("4: no room", STATE, () -> x.addField(0, 0, 'c', 0));
+        Check.fails("3: a wrong letter goes ahead", ARGUMENT, () -> x.insert(0, 0, '!'));
         x.protect(0, false);
         x.erase(1, 0, 100);
         Check.due("3: seen", x.length(), 100);
-        Check.refused(x, "3: erased units count", STATE, () -> x.insert(0, 0, 'a'));
+        Check.fails("3: erased units count", STATE, () -> x.insert(0, 0, 'a'));
         x.accept(1);
         Check.due("3: room again", x.insert(0, 0, 'a'), 2);
 
         SealOffice y = fullOfChanges();
-        Check.refused(y, "3: 60 changes", STATE, () -> y.insert(2, 60, 'a'));
-        Check.refused(y, "4: 60 changes", STATE, () -> y.addField(2, 60, 'c', 0));
+        Check.fails("3: 60 changes", STATE, () -> y.insert(2, 60, 'a'));
+        Check.fails("4: 60 changes", STATE, () -> y.addField(2, 60, 'c', 0));
         Check.due("3: into one that is there", y.insert(1, 60, 'a'), 59);
         y.protect(0, true);
-        Check.refused(y, "3: 60 changes go ahead of protection", STATE, () -> y.insert(2, 0, 'a'));
-        Check.refused(y, "3: without a new one it is protection", UNSUPPORTED, () -> y.insert(0, 1, 'a'));
+        Check.fails("3: 60 changes go ahead of protection", STATE, () -> y.insert(2, 0, 'a'));
+        Check.fails("3: without a new one it is protection", UNSUPPORTED, () -> y.insert(0, 1, 'a'));
         y.protect(0, false);
         y.judge(-1, true);
-        Check.refused(y, "3: judged ones count", STATE, () -> y.insert(1, 1, 'a'));
+        Check.fails("3: judged ones count", STATE, () -> y.insert(1, 1, 'a'));
         y.setTracking(false);
         Check.due("3: untracked", y.insert(1, 1, 'a'), -1);
     }
@@ -193,29 +193,29 @@ public final class WritingTest {
         for (int k = 4; k < 20; k++) {
             Check.due("4: field", x.addField(0, 0, 'l', 1), k);
         }
-        Check.refused(x, "4: 20 fields", STATE, () -> x.addField(0, 0, 'l', 1));
+        Check.fails("4: 20 fields", STATE, () -> x.addField(0, 0, 'l', 1));
         x.undo();
-        Check.refused(x, "4: 20 fields, one undone", STATE, () -> x.addField(0, 0, 'l', 1));
+        Check.fails("4: 20 fields, one undone", STATE, () -> x.addField(0, 0, 'l', 1));
         x.protect(0, true);
-        Check.refused(x, "4: ahead of protection", STATE, () -> x.addField(0, 0, 'l', 1));
-        Check.refused(x, "4: behind a wrong kind", ARGUMENT, () -> x.addField(0, 0, 'x', 1));
+        Check.fails("4: ahead of protection", STATE, () -> x.addField(0, 0, 'l', 1));
+        Check.fails("4: behind a wrong kind", ARGUMENT, () -> x.addField(0, 0, 'x', 1));
     }
 
     private static void addFieldRefuses() {
         SealOffice x = Check.plain("ab/");
         x.protect(1, true);
-        Check.refused(x, "4: author", BOUNDS, () -> x.addField(4, 0, 'c', 0));
-        Check.refused(x, "4: author -1 goes ahead of the kind", BOUNDS, () -> x.addField(-1, 0, 'x', 0));
-        Check.refused(x, "4: place", BOUNDS, () -> x.addField(0, 4, 'c', 0));
-        Check.refused(x, "4: place -1", BOUNDS, () -> x.addField(0, -1, 'x', 0));
-        Check.refused(x, "4: kind", ARGUMENT, () -> x.addField(0, 3, 'd', 0));
+        Check.fails("4: author", BOUNDS, () -> x.addField(4, 0, 'c', 0));
+        Check.fails("4: author -1 goes ahead of the kind", BOUNDS, () -> x.addField(-1, 0, 'x', 0));
+        Check.fails("4: place", BOUNDS, () -> x.addField(0, 4, 'c', 0));
+        Check.fails("4: place -1", BOUNDS, () -> x.addField(0, -1, 'x', 0));
+        Check.fails("4: kind", ARGUMENT, () -> x.addField(0, 3, 'd', 0));
         for (char kind : new char[] {'n', 'p', 'l'}) {
-            Check.refused(x, "4: bookmark 6", ARGUMENT, () -> x.addField(0, 0, kind, 6));
-            Check.refused(x, "4: bookmark -1", ARGUMENT, () -> x.addField(0, 3, kind, -1));
+            Check.fails("4: bookmark 6", ARGUMENT, () -> x.addField(0, 0, kind, 6));
+            Check.fails("4: bookmark -1", ARGUMENT, () -> x.addField(0, 3, kind, -1));
         }
-        Check.refused(x, "4: column 3", ARGUMENT, () -> x.addField(0, 0, 'r', 3));
-        Check.refused(x, "4: column -1", ARGUMENT, () -> x.addField(0, 0, 'r', -1));
-        Check.refused(x, "4: protected", UNSUPPORTED, () -> x.addField(0, 3, 'c', 0));
+        Check.fails("4: column 3", ARGUMENT, () -> x.addField(0, 0, 'r', 3));
+        Check.fails("4: column -1", ARGUMENT, () -> x.addField(0, 0, 'r', -1));
+        Check.fails("4: protected", UNSUPPORTED, () -> x.addField(0, 3, 'c', 0));
         Check.due("4: not protected", x.addField(0, 2, 'c', 100), 0);
     }
 
@@ -259,27 +259,27 @@ public final class WritingTest {
     private static void eraseRefuses() {
         SealOffice x = Check.plain("ab/cd/ef");
         x.protect(1, true);
-        Check.refused(x, "5: author", BOUNDS, () -> x.erase(4, 1, 1));
-        Check.refused(x, "5: from", BOUNDS, () -> x.erase(0, -1, 1));
-        Check.refused(x, "5: to", BOUNDS, () -> x.erase(0, 3, 9));
-        Check.refused(x, "5: from behind all", BOUNDS, () -> x.erase(0, 9, 1));
-        Check.refused(x, "5: empty", ARGUMENT, () -> x.erase(0, 4, 4));
-        Check.refused(x, "5: less than empty", ARGUMENT, () -> x.erase(0, 2, 1));
-        Check.refused(x, "5: in a protected one", UNSUPPORTED, () -> x.erase(0, 3, 4));
-        Check.refused(x, "5: from a protected one", UNSUPPORTED, () -> x.erase(0, 5, 7));
-        Check.refused(x, "5: to the begin of a protected one", UNSUPPORTED, () -> x.erase(0, 2, 3));
-        Check.refused(x, "5: over a protected one", UNSUPPORTED, () -> x.erase(0, 0, 8));
+        Check.fails("5: author", BOUNDS, () -> x.erase(4, 1, 1));
+        Check.fails("5: from", BOUNDS, () -> x.erase(0, -1, 1));
+        Check.fails("5: to", BOUNDS, () -> x.erase(0, 3, 9));
+        Check.fails("5: from behind all", BOUNDS, () -> x.erase(0, 9, 1));
+        Check.fails("5: empty", ARGUMENT, () -> x.erase(0, 4, 4));
+        Check.fails("5: less than empty", ARGUMENT, () -> x.erase(0, 2, 1));
+        Check.fails("5: in a protected one", UNSUPPORTED, () -> x.erase(0, 3, 4));
+        Check.fails("5: from a protected one", UNSUPPORTED, () -> x.erase(0, 5, 7));
+        Check.fails("5: to the begin of a protected one", UNSUPPORTED, () -> x.erase(0, 2, 3));
+        Check.fails("5: over a protected one", UNSUPPORTED, () -> x.erase(0, 0, 8));
         Check.due("5: up to the end ahead of it", x.erase(0, 0, 2), 0);
         Check.due("5: from the begin behind it", x.erase(0, 4, 6), 1);
 
         SealOffice y = fullOfChanges();
-        Check.refused(y, "5: 60 changes", STATE, () -> y.erase(0, 0, 2));
+        Check.fails("5: 60 changes", STATE, () -> y.erase(0, 0, 2));
         Check.due("5: own ones need none", y.erase(0, 0, 1), -1);
         y.protect(0, true);
-        Check.refused(y, "5: ahead of protection", STATE, () -> y.erase(0, 0, 2));
-        Check.refused(y, "5: then protection", UNSUPPORTED, () -> y.erase(1, 0, 1));
+        Check.fails("5: ahead of protection", STATE, () -> y.erase(0, 0, 2));
+        Check.fails("5: then protection", UNSUPPORTED, () -> y.erase(1, 0, 1));
         y.setTracking(false);
-        Check.refused(y, "5: untracked needs none", UNSUPPORTED, () -> y.erase(0, 0, 2));
+        Check.fails("5: untracked needs none", UNSUPPORTED, () -> y.erase(0, 0, 2));
     }
 
     private static void setStyleTracked() {
@@ -328,18 +328,18 @@ public final class WritingTest {
     private static void setStyleRefuses() {
         SealOffice x = Check.plain("a/b");
         x.protect(0, true);
-        Check.refused(x, "6: author", BOUNDS, () -> x.setStyle(4, 1, 0));
-        Check.refused(x, "6: author -1", BOUNDS, () -> x.setStyle(-1, 0, 0));
-        Check.refused(x, "6: paragraph", BOUNDS, () -> x.setStyle(0, 2, 0));
-        Check.refused(x, "6: paragraph -1", BOUNDS, () -> x.setStyle(0, -1, 0));
-        Check.refused(x, "6: style", BOUNDS, () -> x.setStyle(0, 0, 1));
-        Check.refused(x, "6: style -1", BOUNDS, () -> x.setStyle(0, 0, -1));
-        Check.refused(x, "6: protected", UNSUPPORTED, () -> x.setStyle(0, 0, 0));
+        Check.fails("6: author", BOUNDS, () -> x.setStyle(4, 1, 0));
+        Check.fails("6: author -1", BOUNDS, () -> x.setStyle(-1, 0, 0));
+        Check.fails("6: paragraph", BOUNDS, () -> x.setStyle(0, 2, 0));
+        Check.fails("6: paragraph -1", BOUNDS, () -> x.setStyle(0, -1, 0));
+        Check.fails("6: style", BOUNDS, () -> x.setStyle(0, 0, 1));
+        Check.fails("6: style -1", BOUNDS, () -> x.setStyle(0, 0, -1));
+        Check.fails("6: protected", UNSUPPORTED, () -> x.setStyle(0, 0, 0));
         SealOffice y = fullOfChanges();
         y.protect(0, true);
-        Check.refused(y, "6: 60 changes, ahead of protection", STATE, () -> y.setStyle(0, 0, 0));
+        Check.fails("6: 60 changes, ahead of protection", STATE, () -> y.setStyle(0, 0, 0));
         y.setTracking(false);
-        Check.refused(y, "6: untracked", UNSUPPORTED, () -> y.setStyle(0, 0, 0));
+        Check.fails("6: untracked", UNSUPPORTED, () -> y.setStyle(0, 0, 0));
         SealOffice z = new SealOffice();
         z.setStyle(0, 0, 0);
         for (int k = 0; k < 59; k++) {
@@ -355,8 +355,8 @@ public final class WritingTest {
         Check.due("7: the other one was not", x.protect(0, false), false);
         Check.due("7: ended", x.protect(1, false), true);
         Check.due("7: writing again", x.insert(0, 3, 'c'), 0);
-        Check.refused(x, "7: paragraph", BOUNDS, () -> x.protect(2, true));
-        Check.refused(x, "7: paragraph -1", BOUNDS, () -> x.protect(-1, true));
+        Check.fails("7: paragraph", BOUNDS, () -> x.protect(2, true));
+        Check.fails("7: paragraph -1", BOUNDS, () -> x.protect(-1, true));
         x.protect(1, true);
         x.undo();
         Check.due("7: undone", x.protect(1, false), false);
@@ -366,13 +366,13 @@ public final class WritingTest {
 
     private static void undoAndRedo() {
         SealOffice x = new SealOffice();
-        Check.refused(x, "8: none", NONE, () -> x.undo());
-        Check.refused(x, "9: none", NONE, () -> x.redo());
+        Check.fails("8: none", NONE, () -> x.undo());
+        Check.fails("9: none", NONE, () -> x.redo());
         Check.type(x, 0, 0, "abcdefgh");
         for (int left = 5; left >= 0; left--) {
             Check.due("8: left", x.undo(), left);
         }
-        Check.refused(x, "8: only six", NONE, () -> x.undo());
+        Check.fails("8: only six", NONE, () -> x.undo());
         Check.due("8: text", Check.text(x), "ab");
         for (int left = 5; left >= 2; left--) {
             Check.due("9: left", x.redo(), left);
@@ -380,40 +380,31 @@ public final class WritingTest {
         Check.due("9: text", Check.text(x), "abcdef");
         Check.due("8: again", x.undo(), 3);
         Check.due("8: a new edit", x.insert(0, 0, 'x'), 1);
-        Check.refused(x, "9: a new edit ends it", NONE, () -> x.redo());
+        Check.fails("9: a new edit ends it", NONE, () -> x.redo());
         Check.due("8: it", x.undo(), 3);
         Check.due("9: it", x.redo(), 0);
         Check.due("9: text then", Check.text(x), "xabcde");
-        Check.refused(x, "9: a refused call is no edit", BOUNDS, () -> x.insert(0, 99, 'a'));
+        Check.fails("9: a refused call is no edit", BOUNDS, () -> x.insert(0, 99, 'a'));
         Check.due("8: so it can be undone", x.undo(), 3);
         Check.fails("9: throwing", ARGUMENT, () -> x.insert(0, 0, 'A'));
         Check.due("9: still there", x.redo(), 0);
     }
 
     private static void undoGivesAllBack() {
-        SealOffice x = Check.plain("ab/c");
-        x.addStyle(0, true, -1);
-        x.insert(1, 0, 'x');
-        x.setBookmark(0, 1, 3);
-        x.addField(1, 0, 'l', 0);
-        x.update();
-        String before = Check.all(x);
-        x.erase(0, 0, 4);
-        x.update();
-        String after = Check.all(x);
-        x.undo();
-        Check.due("8: as before", Check.all(x), before);
-        x.redo();
-        Check.due("9: as behind it", Check.all(x), after);
-        x.judge(-1, false);
-        x.undo();
-        Check.due("8: judging", Check.all(x), after);
-        x.setStyle(0, 0, 1);
-        Check.due("8: as many changes", x.changes(), 4);
-        x.undo();
-        Check.due("8: as before", x.changes(), 3);
-        x.undo();
-        Check.due("8: results as before, too", Check.all(x), before);
+        Story ahead = Story.plain("ab/c").then(x -> x.addStyle(0, true, -1)).then(x -> x.insert(1, 0, 'x'))
+                .then(x -> x.setBookmark(0, 1, 3)).then(x -> x.addField(1, 0, 'l', 0)).then(x -> x.update());
+        String before = Check.all(ahead.office());
+        Story behind = ahead.then(x -> x.erase(0, 0, 4)).then(x -> x.update());
+        String after = Check.all(behind.office());
+        Story undone = behind.then(x -> x.undo());
+        Check.due("8: as before", Check.all(undone.office()), before);
+        Check.due("9: as behind it", Check.all(undone.then(x -> x.redo()).office()), after);
+        Story judged = behind.then(x -> x.judge(-1, false)).then(x -> x.undo());
+        Check.due("8: judging", Check.all(judged.office()), after);
+        Story styled = judged.then(x -> x.setStyle(0, 0, 1));
+        styled.answers("8: as many changes", 4, x -> x.changes());
+        styled.then(x -> x.undo()).answers("8: as before", 3, x -> x.changes());
+        Check.due("8: results as before, too", Check.all(styled.times(2, x -> x.undo()).office()), before);
     }
 
     private static void undoKeepsTheRest() {
