@@ -563,7 +563,7 @@ public final class SealOffice {
 
     private void arrange() {
         Paper paper = past.now();
-        layout.arrange(paper.row, paper.results, styles);
+        layout.layOut(paper.row, paper.results, styles);
     }
 
     private int workOut(int record) {
@@ -580,7 +580,7 @@ public final class SealOffice {
     // The pages are those of the results before: they are laid out once, ahead of all fields.
     private boolean workRound(int record) {
         Paper paper = past.now();
-        layout.arrange(paper.row, paper.results, styles);
+        layout.layOut(paper.row, paper.results, styles);
         boolean isChanged = false;
         for (int index = 0; index < paper.row.allUnits(); index++) {
             int field = paper.row.fact(Row.FIELD, index);
@@ -1516,7 +1516,7 @@ public final class SealOffice {
             return before;
         }
 
-        void arrange(Row row, int[] results, Styles styles) {
+        void layOut(Row row, int[] results, Styles styles) {
             readSigns(row, results, styles);
             breakLines();
             fillPages();

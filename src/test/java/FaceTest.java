@@ -1,9 +1,14 @@
+import java.io.IOException;
 import java.lang.reflect.Constructor;
 import java.lang.reflect.Field;
 import java.lang.reflect.Method;
 import java.lang.reflect.Modifier;
+import java.nio.file.Files;
+import java.nio.file.Path;
 import java.util.Arrays;
 import java.util.TreeSet;
+import java.util.regex.Matcher;
+import java.util.regex.Pattern;
 
 /** The face: each constructor and method of the document, as it is written there, and nothing else. */
 public final class FaceTest {
@@ -67,7 +72,18 @@ public final class FaceTest {
         "boolean isSound()",
     };
 
-    public static void main(String[] args) {
+    // What the interface says ahead of which calls, and these in their order.
+    private static final String[] GROUPS = {
+        "writing: setTracking insert addField erase setStyle protect undo redo",
+        "text: length unitAt oldLength oldAt paragraphs paragraphOf startOf",
+        "changes: changes kindOf authorOf stateOf unitsOf changeAt accept refuse judge",
+        "styles and lists: addStyle styleOf isBold setList restart setKind setLegal numberOf writeNumber lineAt",
+        "bookmarks and fields: setBookmark bookmarkFrom bookmarkTo lock result update",
+        "records and pages: setRecord choose merge setPage pages pageOf lineOf",
+        "figures: waitingShare shareBits meanParagraph meanBits isSound",
+    };
+
+    public static void main(String[] args) throws IOException {
         Class<?> office = SealOffice.class;
         Check.due("the class is public and final", office.getModifiers(), Modifier.PUBLIC | Modifier.FINAL);
         Constructor<?>[] made = office.getDeclaredConstructors();
@@ -89,7 +105,19 @@ public final class FaceTest {
             Check.due(inner + " is not public", Modifier.isPublic(inner.getModifiers()), false);
             hidden(inner, names);
         }
+        Check.due("the groups", groups(Files.readString(Path.of(System.getProperty("office")))), String.join("\n", GROUPS));
         Check.end();
+    }
+
+    private static String groups(String source) {
+        StringBuilder groups = new StringBuilder();
+        Matcher found = Pattern.compile("^    (?:// ---- (.*)|public \\w+ (\\w+)\\(.*)$", Pattern.MULTILINE).matcher(source);
+        while (found.find() && !"what the calls share".equals(found.group(1))) {
+            boolean isHead = found.group(1) != null;
+            groups.append(isHead && groups.length() > 0 ? "\n" : "");
+            groups.append(isHead ? found.group(1) + ":" : " " + found.group(2));
+        }
+        return groups.toString();
     }
 
     private static String written(Method m) {

@@ -169,6 +169,9 @@ public final class TextEdgesTest {
         both.answers("units: two ends gone, the style of the last one", 0, x -> x.styleOf(0));
         both.answers("units: no list", -1, x -> x.setList(0, 0, 0));
         both.answers("units: no restart", 0, x -> x.restart(0, 1));
+        both.answers("units: not protected", false, x -> x.protect(0, true));
+        Story guarded = first.then(x -> x.protect(0, true)).then(x -> x.accept(0));
+        guarded.answers("units: gone, the protection of the next one", true, x -> x.protect(0, false));
         Story second = text.then(x -> x.setTracking(false)).then(x -> x.erase(0, 3, 4));
         second.answers("units: joined with the last one", 0, x -> x.styleOf(1));
         second.answers("units: the one ahead keeps its own", 1, x -> x.styleOf(0));
@@ -213,5 +216,12 @@ public final class TextEdgesTest {
         Story letters = text.then(x -> x.insert(0, 1, 'x')).then(x -> x.insert(0, 0, 'y'));
         letters.answers("units: a letter changes nothing of it", 1, x -> x.styleOf(0));
         letters.answers("units: nor of the restart", 7, x -> x.numberOf(0));
+        Story guarded = text.then(x -> x.protect(0, true)).then(x -> x.protect(2, true)).then(x -> x.insert(0, 2, '/'));
+        boolean[] protections = {true, false, false, true};
+        for (int k = 0; k < protections.length; k++) {
+            int paragraph = k;
+            guarded.answers("units: a new end is not protected, those beside it may be", protections[k],
+                    x -> x.protect(paragraph, false));
+        }
     }
 }
