@@ -17,7 +17,8 @@ import java.util.regex.Pattern;
 /** What ../shared/LANGUAGE.md leaves out does not stand in the class, as far as its text and its members can tell it. */
 public final class LanguageTest {
     private static final String[] LEFT_OUT = {
-        "->", "::", "\\bfinally\\b", "\\bcatch\\b", "\\bsynchronized\\b", "\\bassert\\b", "\\bprotected \\w", "\\bwhile \\(true\\)",
+        "->", "::", "\\bfinally\\b", "\\bcatch\\b", "\\bsynchronized\\b", "\\bassert\\b", "\\bprotected \\w",
+        "\\bwhile \\(true\\)",
         "\\bString\\.", "\\bDouble\\b", "\\bFloat\\b", "\\bThread\\b", "\\bSystem\\.(?!arraycopy\\()", "\\w+Exact\\(",
         "\" *\\+|\\+ *\"", "\\bvar\\b", "\\bimport (?!java\\.util\\.NoSuchElementException;)", "^package\\b",
     };
@@ -27,7 +28,8 @@ public final class LanguageTest {
     private static final int MOST_FIELDS = 20;
     private static final int MOST_DEPTH = 8;
     // A method of the class begins behind four blanks, one of an inner class behind eight; a constructor has no type.
-    private static final Pattern METHOD = Pattern.compile("( {4}| {8})(?:(?:public|private|static|final) )*[\\w\\[\\]]+ (\\w+)\\(.*\\{");
+    private static final Pattern METHOD = Pattern.compile(
+            "( {4}| {8})(?:(?:public|private|static|final) )*[\\w\\[\\]]+ (\\w+)\\(.*\\{");
     private static final Pattern CALL = Pattern.compile("(\\w+)\\(");
 
     public static void main(String[] args) throws IOException {

@@ -565,7 +565,8 @@ public final class WritingEdgesTest {
     }
 
     private static final List<Function<SealOffice, Object>> EDITS = List.of(
-            x -> x.insert(0, 0, '/'), x -> x.erase(0, 0, 3), x -> x.setStyle(0, 0, 0), x -> x.protect(0, true), x -> x.accept(0), x -> x.refuse(1), x -> x.judge(-1, false), x -> x.judge(-1, true),
+            x -> x.insert(0, 0, '/'), x -> x.erase(0, 0, 3), x -> x.setStyle(0, 0, 0), x -> x.protect(0, true),
+            x -> x.accept(0), x -> x.refuse(1), x -> x.judge(-1, false), x -> x.judge(-1, true),
             x -> x.setList(0, 0, 2), x -> x.setList(0, -1, 0), x -> x.restart(0, 99), x -> x.restart(0, 0),
             x -> x.setBookmark(0, 0, 1), x -> x.setBookmark(5, 0, 0));
 
